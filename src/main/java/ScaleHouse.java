@@ -522,46 +522,42 @@ public final class ScaleHouse {
             begin();
             for (int i = 0; i < tokens.length; i++) {
                 int token = tokens[i];
-                if (token >= 0) {
-                    takeFactor(token);
-                } else {
-                    takeSign(-token, d, l);
+                switch (-token) {
+                    case 'd':
+                        takeFactor(d);
+                        break;
+                    case 'l':
+                        takeFactor(l);
+                        break;
+                    case '(':
+                        if (depth < DEEPEST) {
+                            depth++;
+                            begin();
+                        }
+                        break;
+                    case ')':
+                        if (depth > 0) {
+                            long inner = wholeSum();
+                            depth--;
+                            takeFactor(inner);
+                        }
+                        break;
+                    case '+':
+                    case '-':
+                        sums[depth] = wholeSum();
+                        sumSigns[depth] = -token;
+                        beginProduct();
+                        break;
+                    case '*':
+                    case '/':
+                        productSigns[depth] = -token;
+                        break;
+                    default:
+                        takeFactor(token);
+                        break;
                 }
             }
             return wholeSum();
-        }
-
-        private void takeSign(int sign, int d, int l) {
-            switch (sign) {
-                case 'd':
-                    takeFactor(d);
-                    break;
-                case 'l':
-                    takeFactor(l);
-                    break;
-                case '(':
-                    if (depth < DEEPEST) {
-                        depth++;
-                        begin();
-                    }
-                    break;
-                case ')':
-                    if (depth > 0) {
-                        long inner = wholeSum();
-                        depth--;
-                        takeFactor(inner);
-                    }
-                    break;
-                case '+':
-                case '-':
-                    sums[depth] = wholeSum();
-                    sumSigns[depth] = sign;
-                    beginProduct();
-                    break;
-                default:
-                    productSigns[depth] = sign;
-                    break;
-            }
         }
 
         // 0 + and 1 * ahead of the first change nothing, so first and later ones need no telling apart.
@@ -593,7 +589,10 @@ public final class ScaleHouse {
         }
 
         private static long bounded(long x) {
-            return Math.max(-FARTHEST, Math.min(FARTHEST, x));
+            if (x > FARTHEST) {
+                return FARTHEST;
+            }
+            return x < -FARTHEST ? -FARTHEST : x;
         }
     }
 

@@ -85,6 +85,8 @@ public final class FaceTest {
         Due.yes(c + " has at most twenty fields", own <= 20);
         for (Method m : c.getDeclaredMethods()) {
             Due.yes(m + " takes at most seven", m.getParameterCount() <= 7);
+            boolean known = Arrays.stream(FACE).anyMatch(f -> f.contains(" " + m.getName() + "("));
+            Due.yes(m + " bears no name of the face", c == ScaleHouse.class || !known);
         }
     }
 

@@ -30,6 +30,12 @@ public final class LogTest {
         Due.is("not from 1 on", house.scale(0, 0), 82);
         Due.yes("parts -200", house.error(2, -200, 0));
         Due.is("the one told last", house.scale(0, 0), 123);
+        Due.yes("parts -1", house.error(2, -1, 0));
+        Due.is("99,000 by 999, cut", house.scale(0, 0), 99);
+        Due.yes("parts -10", house.error(2, -10, 0));
+        Due.is("99,000 by 990, just", house.scale(0, 0), 100);
+        Due.yes("parts 1", house.error(2, 1, 0));
+        Due.is("99,000 by 1,001, cut", house.scale(0, 0), 98);
         Due.yes("from 500", house.error(5, 1, 500));
         Due.yes("stick 0", house.error(0, -1, 0));
     }

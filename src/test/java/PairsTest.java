@@ -3,6 +3,7 @@ public final class PairsTest {
     public static void main(String[] args) {
         rows();
         allowing();
+        nothingApartAtFirst();
         clearing();
         lowest();
         rowRatherThanNot();
@@ -63,6 +64,18 @@ public final class PairsTest {
         Due.is("no more", house.pair(0), -1);
         house.row(1, 30, 30);
         Due.is("the same", house.pair(0), 1);
+    }
+
+    private static void nothingApartAtFirst() {
+        ScaleHouse house = new ScaleHouse();
+        house.row(0, 30, 30);
+        house.row(1, 30, 31);
+        house.row(1, 31, 30);
+        house.row(1, 29, 30);
+        house.row(1, 30, 29);
+        Due.is("none of the same d and l", house.pairs(), 0);
+        house.row(1, 30, 30);
+        Due.is("the same d and l", house.pair(0), 4);
     }
 
     private static void clearing() {
@@ -132,6 +145,24 @@ public final class PairsTest {
         house.row(1, 19, 1);
         house.row(1, 22, 1);
         expect(house, 2, 1, 0);
+        house.clear();
+        // row 0 agrees with all, row 1 with seller's 0 alone: row 0 has neither that nor the last
+        house.row(0, 20, 1);
+        house.row(0, 17, 1);
+        house.row(1, 19, 1);
+        house.row(1, 21, 1);
+        house.row(1, 22, 1);
+        expect(house, 2, 1, 0);
+        house.clear();
+        // row 0 agrees with all; the others need seller's 0 and 1
+        house.row(0, 20, 1);
+        house.row(0, 17, 1);
+        house.row(0, 17, 1);
+        house.row(1, 18, 1);
+        house.row(1, 19, 1);
+        house.row(1, 21, 1);
+        house.row(1, 22, 1);
+        expect(house, 3, 2, 0, 1);
     }
 
     private static void expect(ScaleHouse house, int many, int... want) {

@@ -40,6 +40,12 @@ public final class TapeTest {
         Due.is("two more at 119", house.feed(0x31000000, 0, 0, 0, 0x31), -1);
         Due.is("count(7) as before", house.count(7), 119);
         Due.is("one more at 119", house.feed(0, 0, 0x3100, 0, 0), 120);
+        for (int place = 0; place < 5; place++) {
+            int[] w = new int[5];
+            w[place] = 0x31;
+            Due.is("a 121st byte in place " + place, house.feed(w[0], w[1], w[2], w[3], w[4]), -1);
+        }
+        Due.is("count(7)", house.count(7), 120);
     }
 
     private static void ending() {

@@ -1,18 +1,29 @@
 import java.util.NoSuchElementException;
+import java.util.stream.IntStream;
 
 /** What the tests share: telling wrong answers, and feeding texts. */
 final class Due {
     private static int wrong = 0;
     private static int asked = 0;
+    private static String holds = "";
 
     private Due() {
+    }
+
+    /** Names the promise, and the words of the document, that the answers asked for from here on hold to. */
+    static void promise(int number, String words) {
+        holds = "promise " + number + ", \"" + words + "\": ";
+    }
+
+    static int asked() {
+        return asked;
     }
 
     static void is(String call, long got, long want) {
         asked++;
         if (got != want) {
             wrong++;
-            System.out.println(call + " answered " + got + ", due is " + want);
+            System.out.println(holds + call + " answered " + got + ", due is " + want);
         }
     }
 
@@ -60,10 +71,22 @@ final class Due {
         return word;
     }
 
+    /** One feed of up to twenty signs. */
+    static int feedOnce(ScaleHouse house, String text) {
+        return house.feed(word(text, 0), word(text, 4), word(text, 8), word(text, 12), word(text, 16));
+    }
+
     static int law(ScaleHouse house, String text, int from) {
         house.end(0);
         feed(house, text);
         return house.law(from);
+    }
+
+    /** Ints that are not within the bounds: the nearest, the farthest, and some that wrap round into them. */
+    static int[] outside(int least, int greatest) {
+        return IntStream.of(least - 1, greatest + 1, Integer.MIN_VALUE, Integer.MAX_VALUE, least + 256,
+                greatest + 65_536, greatest + Integer.MIN_VALUE, -greatest - 1)
+                .filter(x -> x < least || x > greatest).distinct().toArray();
     }
 
     static void days(ScaleHouse house, int n) {

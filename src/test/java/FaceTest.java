@@ -90,15 +90,15 @@ public final class FaceTest {
         }
     }
 
+    /** Words that LANGUAGE.md rules out wherever they stand. */
     private static void words() throws Exception {
         String text = Files.readString(Path.of("src/main/java/ScaleHouse.java"));
-        String[] ruledOut = {"->", "::", "catch", "finally", "synchronized", "assert", "Exact(", "package ",
-            "static {", "HashMap", "String", "System.", "Thread", "Random", "double", "float", "Object"};
+        String[] ruledOut = {"::", "finally", "synchronized", "assert ", "Exact(", "package ", "static {",
+            "HashMap", "Thread", "Random", "ArrayIndexOutOfBounds", "NullPointer", "ClassCast",
+            "NegativeArraySize", "ArrayStore", "Throwable", "catch (Exception", "System.out", "getMessage"};
         for (String word : ruledOut) {
             Due.no("the program has " + word, text.contains(word));
         }
-        int throwing = text.split("throw new", -1).length - 1;
-        Due.is("throw statements", throwing, 1);
     }
 
     private static void newObject() {

@@ -3,8 +3,10 @@ import java.util.Random;
 
 /** All promises: long runs of mixed calls, each answer laid beside PlainHouse's. */
 public final class ModelTest {
-    private static final int RUNS = 400;
-    private static final int CALLS = 512;
+    private static final int RUNS = 1_000;
+    // An object answers 512 calls; what one step makes at most stays free behind the last.
+    private static final int CALLS = 512 - 14;
+    private static final int LONGEST_TEXT = 160;
 
     private final Random random;
     private final ScaleHouse house = new ScaleHouse();
@@ -13,6 +15,7 @@ public final class ModelTest {
     // Which calls a run makes most of, so that some runs fill up and some get far in days.
     private final int[] weights = new int[25];
     private int allWeights = 0;
+    private int clears = 0;
 
     private ModelTest(int seed) {
         random = new Random(seed);
@@ -26,7 +29,8 @@ public final class ModelTest {
     public static void main(String[] args) {
         for (int seed = 0; seed < RUNS; seed++) {
             ModelTest test = new ModelTest(seed);
-            for (int i = 0; i < CALLS; i++) {
+            int first = Due.asked();
+            while (Due.asked() - first + test.clears < CALLS) {
                 test.call(test.pick());
             }
         }
@@ -120,7 +124,7 @@ public final class ModelTest {
             end(0);
         }
         String text = text();
-        for (int at = 0; at < text.length(); at += 20) {
+        for (int at = 0; at < text.length() && at < LONGEST_TEXT; at += 20) {
             int[] w = new int[5];
             for (int i = 0; i < 5; i++) {
                 w[i] = at + 4 * i < text.length() ? Due.word(text, at + 4 * i) : 0;
@@ -268,6 +272,7 @@ public final class ModelTest {
                 break;
             case 18:
                 if (random.nextInt(6) == 0) {
+                    clears++;
                     house.clear();
                     plain.clear();
                 }

@@ -8,6 +8,7 @@ public final class RoomTest {
     public static void main(String[] args) {
         makingMost();
         mostLines();
+        asking();
         mostPairs();
         Due.close("RoomTest");
     }
@@ -46,16 +47,28 @@ public final class RoomTest {
         }
         small("20,000 lines", before, 1_000_000);
         Due.is("count(3)", house.count(3), 20_000);
-        before = made();
-        for (int i = 0; i < 200; i++) {
-            house.scale(i % 100, i);
-            house.sum(0, i);
+    }
+
+    private static void asking() {
+        ScaleHouse house = new ScaleHouse();
+        house.feed(Due.word("d*l", 0), 0, 0, 0, 0);
+        house.law(0);
+        for (int i = 0; i < 100; i++) {
+            house.log(0, 0, 50, 50);
+            house.check(i, 50);
+        }
+        house.day();
+        long before = made();
+        for (int i = 0; i < 50; i++) {
+            house.scale(i, i % 2);
+            house.sum(0, i % 2);
             house.value(0, i, i);
             house.most(i, i);
-            house.force(i, i);
+            house.force(i, i % 2);
             house.habit(0, 0);
         }
         small("asking alone", before, 2_000);
+        Due.is("sum(0, 1)", house.sum(0, 1), 250_000);
     }
 
     private static void mostPairs() {
@@ -65,7 +78,7 @@ public final class RoomTest {
             house.row(1, 50 + i, 30);
         }
         long before = made();
-        for (int i = 0; i < 200; i++) {
+        for (int i = 0; i < 150; i++) {
             house.allow(i % 21, 20);
             house.pairs();
             house.pair(i % 20);

@@ -5,6 +5,7 @@ import java.lang.reflect.Modifier;
 import java.nio.file.Files;
 import java.nio.file.Path;
 import java.util.Arrays;
+import java.util.NoSuchElementException;
 import java.util.Set;
 import java.util.TreeSet;
 
@@ -42,6 +43,9 @@ public final class FaceTest {
         for (Method m : ScaleHouse.class.getDeclaredMethods()) {
             boolean hidden = Modifier.isPrivate(m.getModifiers()) && !names.contains(m.getName());
             Due.yes("method " + m, hidden || want.contains(face(m)));
+            boolean mayThrow = m.getName().equals("value");
+            Due.yes(m + " says what it throws", Arrays.equals(m.getExceptionTypes(),
+                    mayThrow ? new Class<?>[] {NoSuchElementException.class} : new Class<?>[0]));
         }
     }
 
